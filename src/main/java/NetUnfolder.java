@@ -87,11 +87,11 @@ public final class NetUnfolder {
     }
 
     public int play(int n) throws IllegalArgumentException, IllegalStateException {
-        boolean exists = latest.length != NONE;
-        if (n < 0 || exists && n > latest.length) {
+        boolean thereIsAWay = latest.length != NONE;
+        if (n < 0 || thereIsAWay && n > latest.length) {
             throw new IllegalArgumentException();
         }
-        if (!exists) {
+        if (!thereIsAWay) {
             throw new IllegalStateException();
         }
         int marking = net.first;
@@ -345,6 +345,26 @@ public final class NetUnfolder {
             return places;
         }
 
+        /**
+         * The rank of an event with these causes and itself, as one number: how many they are, then
+         * for each transition how far it is from being all of them. Of two sorted rows of one length
+         * the lesser has more of the first transition in which they differ, so more must make the
+         * number less.
+         */
+        long rankOf(int t, int causesBefore) {
+            long key = Integer.bitCount(causesBefore) + 1;
+            for (int u = 0; u < MAX_TRANSITIONS; u++) {
+                int times = u == t ? 1 : 0;
+                for (int e = 0; e < events; e++) {
+                    if (has(causesBefore, e) && transition[e] == u) {
+                        times++;
+                    }
+                }
+                key = key << 5 | MAX_EVENTS + 1 - times;
+            }
+            return key;
+        }
+
         int takenBy(int e, int k) {
             int before = 0;
             for (int p = 0; p < PLACES; p++) {
@@ -360,7 +380,7 @@ public final class NetUnfolder {
         }
     }
 
-    /** The possible events; one more than may be, so that too many can be seen. */
+    /** The possible events, with room for one more than may be, so that too many can be seen. */
     private static final class Possible {
         private final Prefix prefix;
         int size;
@@ -380,11 +400,11 @@ public final class NetUnfolder {
             return size > MAX_POSSIBLE;
         }
 
-        void add(int t, long takes) {
+        void add(int t, long takes, long rankKey) {
             if (!tooMany()) {
                 transition[size] = t;
                 taken[size] = takes;
-                rank[size] = rankKey(t, prefix.causesOf(takes));
+                rank[size] = rankKey;
                 size++;
             }
         }
@@ -394,25 +414,6 @@ public final class NetUnfolder {
             transition[i] = transition[size];
             taken[i] = taken[size];
             rank[i] = rank[size];
-        }
-
-        /**
-         * A rank as one number: how many causes, then for each transition how often it is not among
-         * them. Of two sorted rows of one length the lesser has more of the first transition in
-         * which they differ, so more of a transition must make the number less.
-         */
-        private long rankKey(int t, int causesBefore) {
-            long key = Integer.bitCount(causesBefore) + 1;
-            for (int u = 0; u < MAX_TRANSITIONS; u++) {
-                int times = u == t ? 1 : 0;
-                for (int e = 0; e < prefix.events; e++) {
-                    if (has(causesBefore, e) && prefix.transition[e] == u) {
-                        times++;
-                    }
-                }
-                key = key << 5 | MAX_EVENTS + 1 - times;
-            }
-            return key;
         }
 
         int next() {
@@ -569,7 +570,7 @@ public final class NetUnfolder {
             }
             if (p >= PLACES) {
                 if ((chosen & fresh) != 0) {
-                    possible.add(t, chosen);
+                    possible.add(t, chosen, prefix.rankOf(t, prefix.causesOf(chosen)));
                 }
                 return;
             }

@@ -35,7 +35,7 @@ public final class ModelTest {
                 room += answer == NetUnfolder.ROOM ? 1 : 0;
             }
         }
-        Checks.that("many nets of each sort", whole > 1000 && unsafe > 1000 && room > 20);
+        Checks.that("many nets of each sort", whole > 1000 && unsafe > 1000 && room > 200);
         System.out.println("nets: " + whole + " whole, " + unsafe + " not safe, " + room + " without room");
         Checks.end();
     }

@@ -32,12 +32,8 @@ final class PlainModel {
     final int first;
     final List<Condition> conditions = new ArrayList<>();
     final List<Event> events = new ArrayList<>();
-    private boolean[][] concurrent = new boolean[MAX_CONDITIONS][MAX_CONDITIONS];
+    private final boolean[][] concurrent = new boolean[MAX_CONDITIONS][MAX_CONDITIONS];
     int answer;
-    int mostPossible;
-    /** Whether the event for which there was no room would have made the net not safe, or the reverse. */
-    boolean unsafeWithoutRoom;
-    String roomFor = "";
     List<Integer> way;
 
     PlainModel(int[] preset, int[] postset, int first) {
@@ -51,9 +47,8 @@ final class PlainModel {
         makeConditions(first, NetUnfolder.NONE);
         while (true) {
             List<Event> possible = possibleEvents();
-            mostPossible = Math.max(mostPossible, possible.size());
             if (possible.size() > MAX_POSSIBLE) {
-                return noRoom("possible");
+                return noRoom();
             }
             if (possible.isEmpty()) {
                 return events.size();
@@ -61,18 +56,17 @@ final class PlainModel {
             Event next = Collections.min(possible, PlainModel::compareEvents);
             for (int c = 0; c < conditions.size(); c++) {
                 if (isRival(c, next)) {
-                    unsafeWithoutRoom = events.size() == MAX_EVENTS;
                     way = unsafeWay(c, next);
                     return NetUnfolder.UNSAFE;
                 }
             }
             if (events.size() == MAX_EVENTS) {
-                return noRoom("events");
+                return noRoom();
             }
             next.marking = markingWith(next);
             next.cutOff = isCutOff(next);
             if (!next.cutOff && conditions.size() + Integer.bitCount(postset[next.transition]) > MAX_CONDITIONS) {
-                return noRoom("conditions");
+                return noRoom();
             }
             next.causes.add(events.size());
             events.add(next);
@@ -82,8 +76,7 @@ final class PlainModel {
         }
     }
 
-    private int noRoom(String what) {
-        roomFor = what;
+    private int noRoom() {
         events.clear();
         conditions.clear();
         return NetUnfolder.ROOM;

@@ -2,7 +2,22 @@ import java.util.Random;
 
 /** Nets of several kinds, since nets that are merely random are seldom safe and never large. */
 final class RandomNets {
-    static final int KINDS = 5;
+    static final int KINDS = 6;
+
+    /** Nets at the edges of what there is room for: first marking, then preset and postset in turn. */
+    private static final int[][] LARGE = {
+        {247, 100, 68, 198, 66, 3, 10, 83, 88, 88, 1},
+        {250, 128, 4, 214, 1, 224, 160, 248, 233, 160, 128, 187, 11, 114, 51, 138, 2},
+        {15, 10, 2, 2, 16, 6, 2, 17, 130, 157, 8},
+        {243, 125, 3, 161, 160, 172, 168, 194, 130, 34, 44},
+        {191, 59, 43, 46, 108, 46, 78, 250, 20, 29, 28, 157, 13},
+        {199, 65, 1, 6, 4, 5, 33, 1, 17, 132, 36, 5, 13, 1, 25, 5, 37},
+        {178, 48, 32, 130, 2, 34, 3, 32, 40, 34, 35, 2, 6, 2, 70, 34, 99},
+        {7, 7, 197, 4, 8, 6, 68, 4, 40, 8, 20, 8, 4},
+        {63, 10, 136, 28, 68, 136, 10, 234, 51, 224, 2, 224, 66, 199, 225, 69, 76},
+        {223, 17, 1, 64, 0, 5, 1, 2, 32, 9, 1, 128, 0, 11, 1},
+        {255, 3, 1, 5, 1, 9, 1, 48, 16, 80, 16, 144, 16},
+    };
 
     final int[] preset;
     final int[] postset;
@@ -11,7 +26,8 @@ final class RandomNets {
 
     RandomNets(int kind, Random random) {
         this.random = random;
-        int size = 1 + random.nextInt(8);
+        int[] large = LARGE[random.nextInt(LARGE.length)];
+        int size = kind == 5 ? large.length / 2 : 1 + random.nextInt(8);
         preset = new int[size];
         postset = new int[size];
         switch (kind) {
@@ -27,8 +43,11 @@ final class RandomNets {
             case 3:
                 first = sharedLoops();
                 break;
-            default:
+            case 4:
                 first = spendingPlaces();
+                break;
+            default:
+                first = nearly(large);
                 break;
         }
     }
@@ -108,5 +127,30 @@ final class RandomNets {
             postset[t] = random.nextBoolean() ? preset[t] & somePlaces(0, 4) : somePlaces(0, 1);
         }
         return somePlaces(2, 8);
+    }
+
+    /** The net itself, or one that differs from it in a few places. */
+    private int nearly(int[] large) {
+        for (int t = 0; t < preset.length; t++) {
+            preset[t] = large[2 * t + 1];
+            postset[t] = large[2 * t + 2];
+        }
+        int start = large[0];
+        for (int k = random.nextInt(4); k > 0; k--) {
+            int t = random.nextInt(preset.length);
+            int place = 1 << random.nextInt(8);
+            switch (random.nextInt(3)) {
+                case 0:
+                    preset[t] = (preset[t] ^ place) == 0 ? place : preset[t] ^ place;
+                    break;
+                case 1:
+                    postset[t] ^= place;
+                    break;
+                default:
+                    start ^= place;
+                    break;
+            }
+        }
+        return start;
     }
 }

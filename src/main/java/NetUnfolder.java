@@ -206,7 +206,7 @@ public final class NetUnfolder {
         }
 
         boolean enables(int marking, int t) {
-            return (marking & preset[t]) == preset[t];
+            return t >= 0 && t < size && (marking & preset[t]) == preset[t];
         }
 
         int fire(int marking, int t) {
@@ -239,7 +239,7 @@ public final class NetUnfolder {
         }
     }
 
-    /** The events and conditions that have come; without any, there is no prefix. */
+    /** The events and conditions that have come; none of them when there is no prefix. */
     private static final class Prefix {
         int conditions;
         final int[] place = new int[MAX_CONDITIONS];

@@ -62,13 +62,28 @@ public final class ModelTest {
     }
 
     private void renew() {
-        unfolder = new NetUnfolder();
+        unfolder = usedAndCleared();
         for (int t = 0; t < preset.length; t++) {
             unfolder.transition(preset[t], postset[t]);
         }
         unfolder.first(first);
         same("unfold()", unfolder.unfold(), model.answer);
-        calls = preset.length + 3;
+        calls = 11 + preset.length + 2;
+    }
+
+    /** What an earlier net leaves in the rows inside must not be seen in the next one. */
+    private static NetUnfolder usedAndCleared() {
+        NetUnfolder used = new NetUnfolder();
+        for (int loop = 0; loop < 8; loop += 4) {
+            for (int k = 1; k < 4; k++) {
+                used.transition(1 << loop | 1 << loop + k, 1 << loop);
+            }
+        }
+        used.first(255);
+        Checks.same("unfold() of the earlier net", used.unfold(), 30);
+        Checks.same("deadlock() of the earlier net", used.deadlock(), 6);
+        used.clear();
+        return used;
     }
 
     private void comparePrefix() {
@@ -159,9 +174,7 @@ public final class ModelTest {
     }
 
     private void same(String call, int got, int due) {
-        if (got != due) {
-            Checks.same(call + named(), got, due);
-        }
+        Checks.same(got == due ? call : call + named(), got, due);
     }
 
     private String named() {

@@ -204,6 +204,9 @@ public final class PromiseTest {
         unfolded(30, 255, 3, 1, 5, 1, 9, 1, 48, 16, 80, 16, 144, 16);
         NetUnfolder y = unfolded(21, 243, 125, 3, 161, 160, 172, 168, 194, 130, 34, 44);
         Checks.same("as many conditions as there may be", y.count(1), 60);
+        // A cut-off comes when the conditions that it would make would have no room.
+        NetUnfolder z = unfolded(26, 221, 153, 145, 88, 26, 69, 65, 122, 216, 137, 9, 72, 96, 30, 112);
+        Checks.same("as many conditions, then a cut-off", z.count(1), 60);
     }
 
     private static void promise5OrderOfEvents() {
@@ -301,6 +304,7 @@ public final class PromiseTest {
         Checks.same("unfold again", x.unfold(), 3);
         Checks.same("events again", x.count(0), 3);
         Checks.same("conditions again", x.count(1), 6);
+        Checks.same("takers again", x.condition(0, 2), 2);
         // Nothing is said of losing the way when the prefix is whole.
         wayIs(x, 1, 2);
         NetUnfolder y = unfolded(UNSAFE, 1, 1, 3);

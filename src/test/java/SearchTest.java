@@ -29,8 +29,10 @@ public final class SearchTest {
         pigeons(4, 4, true);
         pigeons(5, 4, false);
         pigeons(6, 5, false);
-        for (int seed = 0; seed < 600; seed++) {
-            randomClauses(seed);
+        for (int seed = 0; seed < 100; seed++) {
+            randomClauses(seed, 3, VARIABLES, 4.2);
+            randomClauses(seed, 4, 34, 9.5);
+            randomClauses(seed, 5, 27, 20.0);
         }
         Checks.end();
     }
@@ -50,15 +52,17 @@ public final class SearchTest {
         test.compare(pigeons + " pigeons", pigeons * holes);
     }
 
-    private static void randomClauses(int seed) throws ReflectiveOperationException {
+    /** About as many clauses for each variable as make it hard to tell whether there is an answer. */
+    private static void randomClauses(int seed, int width, int most, double each)
+            throws ReflectiveOperationException {
         Random random = new Random(seed);
         SearchTest test = new SearchTest();
-        int variables = 6 + random.nextInt(VARIABLES - 5);
-        int number = variables * (38 + random.nextInt(8)) / 10;
+        int variables = 6 + random.nextInt(most - 5);
+        int number = (int) (variables * each);
         for (int i = 0; i < number; i++) {
             long in = 0L;
             long out = 0L;
-            for (int k = 0; k < 3; k++) {
+            for (int k = 0; k < width; k++) {
                 long bit = 1L << random.nextInt(variables);
                 if (random.nextBoolean()) {
                     in |= bit;
@@ -68,7 +72,7 @@ public final class SearchTest {
             }
             test.give(in, out);
         }
-        test.compare("clauses of seed " + seed, variables);
+        test.compare(width + " wide, seed " + seed, variables);
     }
 
     private void compare(String name, int variables) throws ReflectiveOperationException {

@@ -3,6 +3,7 @@ final class Checks {
     private static final int PRINTED = 40;
     private static int made;
     private static int wrong;
+    private static String about = "";
 
     private Checks() {
     }
@@ -10,6 +11,11 @@ final class Checks {
     /** A call whose exception is due. */
     interface Call {
         void run();
+    }
+
+    /** The words of the document that the checks behind this stand for. */
+    static void about(String words) {
+        about = "[" + words + "] ";
     }
 
     static void same(String call, long got, long due) {
@@ -23,6 +29,13 @@ final class Checks {
         made++;
         if (!holds) {
             fault("does not hold: " + what);
+        }
+    }
+
+    static void sameText(String call, String got, String due) {
+        made++;
+        if (!got.equals(due)) {
+            fault(call + " answered " + got + ", due is " + due);
         }
     }
 
@@ -50,7 +63,7 @@ final class Checks {
     private static void fault(String text) {
         wrong++;
         if (wrong <= PRINTED) {
-            System.out.println(text);
+            System.out.println(about + text);
         }
     }
 

@@ -8,9 +8,9 @@ import java.util.TreeSet;
  * compared with what this answers. Only nets and questions are taken; there are no wrong inputs.
  */
 final class PlainModel {
-    static final int MAX_EVENTS = 30;
-    static final int MAX_CONDITIONS = 60;
-    static final int MAX_POSSIBLE = 200;
+    private static final int MAX_EVENTS = 30;
+    private static final int MAX_CONDITIONS = 60;
+    private static final int MAX_POSSIBLE = 200;
 
     static final class Condition {
         int place;
@@ -32,14 +32,34 @@ final class PlainModel {
     final int first;
     final List<Condition> conditions = new ArrayList<>();
     final List<Event> events = new ArrayList<>();
-    private final boolean[][] concurrent = new boolean[MAX_CONDITIONS][MAX_CONDITIONS];
+    private final boolean[][] concurrent;
+    private final int maxEvents;
+    private final int maxConditions;
+    private final int maxPossible;
     int answer;
     List<Integer> way;
 
+    /** How it stood when it ended, and what would have come next: told even when there was no room. */
+    int eventsThen;
+    int conditionsThen;
+    int possibleThen;
+    int mostPossible;
+    Event nextThen;
+    int rivalThen;
+
     PlainModel(int[] preset, int[] postset, int first) {
+        this(preset, postset, first, 0, 0, 0);
+    }
+
+    /** With room for some more events, conditions and possible events than the document has. */
+    PlainModel(int[] preset, int[] postset, int first, int moreEvents, int moreConditions, int morePossible) {
         this.preset = preset;
         this.postset = postset;
         this.first = first;
+        maxEvents = MAX_EVENTS + moreEvents;
+        maxConditions = MAX_CONDITIONS + moreConditions;
+        maxPossible = MAX_POSSIBLE + morePossible;
+        concurrent = new boolean[maxConditions][maxConditions];
         answer = unfold();
     }
 
@@ -47,25 +67,27 @@ final class PlainModel {
         makeConditions(first, NetUnfolder.NONE);
         while (true) {
             List<Event> possible = possibleEvents();
-            if (possible.size() > MAX_POSSIBLE) {
-                return noRoom();
-            }
+            eventsThen = events.size();
+            conditionsThen = conditions.size();
+            possibleThen = possible.size();
+            mostPossible = Math.max(mostPossible, possibleThen);
             if (possible.isEmpty()) {
                 return events.size();
             }
             Event next = Collections.min(possible, PlainModel::compareEvents);
-            for (int c = 0; c < conditions.size(); c++) {
-                if (isRival(c, next)) {
-                    way = unsafeWay(c, next);
-                    return NetUnfolder.UNSAFE;
-                }
-            }
-            if (events.size() == MAX_EVENTS) {
-                return noRoom();
-            }
             next.marking = markingWith(next);
             next.cutOff = isCutOff(next);
-            if (!next.cutOff && conditions.size() + Integer.bitCount(postset[next.transition]) > MAX_CONDITIONS) {
+            nextThen = next;
+            rivalThen = leastRival(next);
+            if (possible.size() > maxPossible) {
+                return noRoom();
+            }
+            if (rivalThen != NetUnfolder.NONE) {
+                way = unsafeWay(rivalThen, next);
+                return NetUnfolder.UNSAFE;
+            }
+            int more = next.cutOff ? 0 : Integer.bitCount(postset[next.transition]);
+            if (events.size() == maxEvents || conditions.size() + more > maxConditions) {
                 return noRoom();
             }
             next.causes.add(events.size());
@@ -172,6 +194,15 @@ final class PlainModel {
             }
         }
         return false;
+    }
+
+    private int leastRival(Event next) {
+        for (int c = 0; c < conditions.size(); c++) {
+            if (isRival(c, next)) {
+                return c;
+            }
+        }
+        return NetUnfolder.NONE;
     }
 
     private boolean isRival(int c, Event next) {

@@ -1,5 +1,3 @@
-import java.util.Arrays;
-
 /** Each promise of the document by itself: ordinary inputs, the edges it names, wrong inputs. */
 public final class PromiseTest {
     private static final int NONE = NetUnfolder.NONE;
@@ -33,83 +31,16 @@ public final class PromiseTest {
         Checks.end();
     }
 
-    /** A net from its first marking and its transitions, preset and postset in turn. */
-    private static NetUnfolder net(int first, int... sets) {
-        NetUnfolder x = new NetUnfolder();
-        for (int k = 0; k + 1 < sets.length; k += 2) {
-            x.transition(sets[k], sets[k + 1]);
-        }
-        x.first(first);
-        return x;
-    }
-
-    private static NetUnfolder unfolded(int due, int first, int... sets) {
-        NetUnfolder x = net(first, sets);
-        Checks.same("unfold of " + first + " " + Arrays.toString(sets), x.unfold(), due);
-        return x;
-    }
-
-    /** Place 0 is used again by two transitions that spend places 1 and 2. */
-    private static NetUnfolder sharedLoop() {
-        return unfolded(4, 7, 3, 1, 5, 1);
-    }
-
-    /** Transition 0 does at once what 1 and 2 do apart. */
-    private static NetUnfolder togetherOrApart() {
-        return unfolded(3, 3, 3, 12, 1, 4, 2, 8);
-    }
-
-    private static void wayIs(NetUnfolder x, int... due) {
-        Checks.same("length of the way", x.count(3), due.length);
-        for (int k = 0; k < due.length; k++) {
-            Checks.same("way " + k, x.way(k), due[k]);
-        }
-        Checks.same("behind the way", x.way(due.length), NONE);
-    }
-
-    private static void noWay(NetUnfolder x) {
-        Checks.same("no way: count", x.count(3), NONE);
-        Checks.same("no way: way", x.way(0), NONE);
-        Checks.badState("no way: play", () -> x.play(0));
-    }
-
-    private static void noPrefix(NetUnfolder x) {
-        Checks.same("no prefix: events", x.count(0), 0);
-        Checks.same("no prefix: conditions", x.count(1), 0);
-        Checks.same("no prefix: cut-offs", x.count(2), 0);
-        Checks.same("no prefix: event", x.event(0, 0), NONE);
-        Checks.same("no prefix: takes", x.takes(0, 0), NONE);
-        Checks.same("no prefix: condition", x.condition(0, 0), NONE);
-        Checks.that("no prefix: concurrent", !x.concurrent(0, 1));
-        Checks.badState("no prefix: reach", () -> x.reach(0));
-        Checks.badState("no prefix: deadlock", x::deadlock);
-        noWay(x);
-    }
-
-    private static void eventIs(NetUnfolder x, int e, int transition, int causes, int marking, int cutOff) {
-        Checks.same("transition of event " + e, x.event(e, 0), transition);
-        Checks.same("causes of event " + e, x.event(e, 1), causes);
-        Checks.same("marking of event " + e, x.event(e, 2), marking);
-        Checks.same("cut-off of event " + e, x.event(e, 3), cutOff);
-    }
-
-    private static void takesAre(NetUnfolder x, int e, int... due) {
-        for (int k = 0; k < due.length; k++) {
-            Checks.same("takes " + e + " " + k, x.takes(e, k), due[k]);
-        }
-        Checks.same("takes no more " + e, x.takes(e, due.length), NONE);
-    }
-
     private static void promise1NewObject() {
         NetUnfolder x = new NetUnfolder();
-        noPrefix(x);
+        Expect.noPrefix(x);
         Checks.same("unfold of the empty net", x.unfold(), 0);
         Checks.same("its conditions", x.count(1), 0);
         Checks.same("reach(0)", x.reach(0), 0);
         Checks.same("play(0)", x.play(0), 0);
         Checks.same("reach(1)", x.reach(1), NONE);
         Checks.same("deadlock", x.deadlock(), 0);
-        wayIs(x);
+        Expect.wayIs(x);
         Checks.same("the first transition's number", x.transition(1, 1), 0);
     }
 
@@ -124,18 +55,18 @@ public final class PromiseTest {
         Checks.badState("a ninth transition", () -> x.transition(1, 2));
         Checks.badArgument("a ninth one that is wrong", () -> x.transition(0, 2));
         Checks.same("the prefix stays", x.count(0), 8);
-        wayIs(x, 0);
-        NetUnfolder y = unfolded(1, 1, 1, 2);
+        Expect.wayIs(x, 0);
+        NetUnfolder y = Expect.unfolded(1, 1, 1, 2);
         y.reach(2);
         Checks.same("one more", y.transition(255, 255), 1);
-        noPrefix(y);
+        Expect.noPrefix(y);
         Checks.same("an empty postset", y.transition(2, 0), 2);
         Checks.same("unfold with it", y.unfold(), 2);
         Checks.same("its marking", y.event(1, 2), 0);
     }
 
     private static void promise2WrongInputs() {
-        NetUnfolder x = unfolded(1, 1, 1, 2);
+        NetUnfolder x = Expect.unfolded(1, 1, 1, 2);
         x.reach(2);
         int[] presets = {0, -1, 256, 257, Integer.MIN_VALUE, Integer.MAX_VALUE};
         for (int preset : presets) {
@@ -146,22 +77,22 @@ public final class PromiseTest {
             Checks.badArgument("postset " + postset, () -> x.transition(1, postset));
         }
         Checks.same("the prefix stays", x.count(0), 1);
-        wayIs(x, 0);
+        Expect.wayIs(x, 0);
         Checks.same("none was added", x.transition(1, 0), 1);
     }
 
     private static void promise3First() {
-        NetUnfolder x = unfolded(1, 1, 1, 2);
+        NetUnfolder x = Expect.unfolded(1, 1, 1, 2);
         x.reach(2);
         int[] wrong = {-1, 256, Integer.MIN_VALUE, Integer.MAX_VALUE};
         for (int m : wrong) {
             Checks.badArgument("first " + m, () -> x.first(m));
         }
         Checks.same("the prefix stays", x.count(0), 1);
-        wayIs(x, 0);
+        Expect.wayIs(x, 0);
         Checks.same("the first marking stays", x.play(0), 1);
         x.first(1);
-        noPrefix(x);
+        Expect.noPrefix(x);
         x.first(4);
         Checks.same("unfold of another marking", x.unfold(), 0);
         Checks.same("place of its condition", x.condition(0, 0), 2);
@@ -174,223 +105,223 @@ public final class PromiseTest {
     }
 
     private static void promise4Clear() {
-        NetUnfolder x = unfolded(1, 1, 1, 2);
+        NetUnfolder x = Expect.unfolded(1, 1, 1, 2);
         x.reach(2);
         x.clear();
-        noPrefix(x);
+        Expect.noPrefix(x);
         Checks.same("unfold of what is left", x.unfold(), 0);
         Checks.same("no first marking is left", x.count(1), 0);
         Checks.same("no transition is left", x.transition(4, 8), 0);
         x.first(4);
         Checks.same("unfold of the new net", x.unfold(), 1);
         Checks.same("marking of its event", x.event(0, 2), 8);
-        NetUnfolder y = unfolded(UNSAFE, 1, 1, 3);
+        NetUnfolder y = Expect.unfolded(UNSAFE, 1, 1, 3);
         y.clear();
-        noPrefix(y);
+        Expect.noPrefix(y);
     }
 
     private static void promise5WholePrefix() {
-        unfolded(0, 0, 1, 2);
-        unfolded(0, 1, 3, 4);
-        NetUnfolder x = unfolded(4, 1, 1, 6, 2, 8, 4, 16, 24, 1);
-        eventIs(x, 0, 0, 1, 6, 0);
-        eventIs(x, 1, 1, 2, 12, 0);
-        eventIs(x, 2, 2, 2, 18, 0);
-        eventIs(x, 3, 3, 4, 1, 1);
-        takesAre(x, 3, 3, 4);
+        Expect.unfolded(0, 0, 1, 2);
+        Expect.unfolded(0, 1, 3, 4);
+        NetUnfolder x = Expect.unfolded(4, 1, 1, 6, 2, 8, 4, 16, 24, 1);
+        Expect.eventIs(x, 0, 0, 1, 6, 0);
+        Expect.eventIs(x, 1, 1, 2, 12, 0);
+        Expect.eventIs(x, 2, 2, 2, 18, 0);
+        Expect.eventIs(x, 3, 3, 4, 1, 1);
+        Expect.takesAre(x, 3, 3, 4);
         Checks.same("conditions", x.count(1), 5);
         Checks.same("cut-offs", x.count(2), 1);
-        noWay(x);
-        unfolded(30, 255, 3, 1, 5, 1, 9, 1, 48, 16, 80, 16, 144, 16);
-        NetUnfolder y = unfolded(21, 243, 125, 3, 161, 160, 172, 168, 194, 130, 34, 44);
+        Expect.noWay(x);
+        Expect.unfolded(30, 255, 3, 1, 5, 1, 9, 1, 48, 16, 80, 16, 144, 16);
+        NetUnfolder y = Expect.unfolded(21, 243, 125, 3, 161, 160, 172, 168, 194, 130, 34, 44);
         Checks.same("as many conditions as there may be", y.count(1), 60);
         // A cut-off comes when the conditions that it would make would have no room.
-        NetUnfolder z = unfolded(26, 221, 153, 145, 88, 26, 69, 65, 122, 216, 137, 9, 72, 96, 30, 112);
+        NetUnfolder z = Expect.unfolded(26, 221, 153, 145, 88, 26, 69, 65, 122, 216, 137, 9, 72, 96, 30, 112);
         Checks.same("as many conditions, then a cut-off", z.count(1), 60);
     }
 
     private static void promise5OrderOfEvents() {
-        NetUnfolder byTransition = unfolded(2, 3, 2, 8, 1, 4);
-        takesAre(byTransition, 0, 1);
-        takesAre(byTransition, 1, 0);
+        NetUnfolder byTransition = Expect.unfolded(2, 3, 2, 8, 1, 4);
+        Expect.takesAre(byTransition, 0, 1);
+        Expect.takesAre(byTransition, 1, 0);
         // Both orders of the two transitions have the same rank: the lesser last transition comes first.
-        NetUnfolder byLast = sharedLoop();
-        eventIs(byLast, 2, 0, 2, 1, 0);
-        takesAre(byLast, 2, 4, 1);
-        eventIs(byLast, 3, 1, 2, 1, 0);
-        takesAre(byLast, 3, 3, 2);
+        NetUnfolder byLast = Expect.sharedLoop();
+        Expect.eventIs(byLast, 2, 0, 2, 1, 0);
+        Expect.takesAre(byLast, 2, 4, 1);
+        Expect.eventIs(byLast, 3, 1, 2, 1, 0);
+        Expect.takesAre(byLast, 3, 3, 2);
         // Behind both orders the same transition: the lesser condition comes first.
-        NetUnfolder byConditions = unfolded(9, 7, 3, 1, 5, 1, 1, 8);
-        eventIs(byConditions, 7, 2, 3, 8, 0);
-        takesAre(byConditions, 7, 6);
-        eventIs(byConditions, 8, 2, 3, 8, 0);
-        takesAre(byConditions, 8, 7);
+        NetUnfolder byConditions = Expect.unfolded(9, 7, 3, 1, 5, 1, 1, 8);
+        Expect.eventIs(byConditions, 7, 2, 3, 8, 0);
+        Expect.takesAre(byConditions, 7, 6);
+        Expect.eventIs(byConditions, 8, 2, 3, 8, 0);
+        Expect.takesAre(byConditions, 8, 7);
         // The row 0 3 is before the row 1 2, though the event's own transition is greater.
-        NetUnfolder byRow = unfolded(5, 5, 1, 2, 4, 8, 8, 16, 2, 32, 40, 64);
-        eventIs(byRow, 2, 3, 2, 36, 0);
-        eventIs(byRow, 3, 2, 2, 17, 0);
+        NetUnfolder byRow = Expect.unfolded(5, 5, 1, 2, 4, 8, 8, 16, 2, 32, 40, 64);
+        Expect.eventIs(byRow, 2, 3, 2, 36, 0);
+        Expect.eventIs(byRow, 3, 2, 2, 17, 0);
         // Four causes come behind two, though their row begins with less.
-        eventIs(byRow, 4, 4, 4, 64, 0);
-        takesAre(byRow, 4, 3, 4);
+        Expect.eventIs(byRow, 4, 4, 4, 64, 0);
+        Expect.takesAre(byRow, 4, 3, 4);
     }
 
     private static void promise5CutOffs() {
-        NetUnfolder toFirst = unfolded(1, 1, 1, 1);
-        eventIs(toFirst, 0, 0, 1, 1, 1);
+        NetUnfolder toFirst = Expect.unfolded(1, 1, 1, 1);
+        Expect.eventIs(toFirst, 0, 0, 1, 1, 1);
         Checks.same("it makes nothing", toFirst.count(1), 1);
-        NetUnfolder toEarlier = unfolded(2, 1, 1, 2, 1, 2);
-        eventIs(toEarlier, 0, 0, 1, 2, 0);
-        eventIs(toEarlier, 1, 1, 1, 2, 1);
+        NetUnfolder toEarlier = Expect.unfolded(2, 1, 1, 2, 1, 2);
+        Expect.eventIs(toEarlier, 0, 0, 1, 2, 0);
+        Expect.eventIs(toEarlier, 1, 1, 1, 2, 1);
         Checks.same("one of them makes nothing", toEarlier.count(1), 2);
-        NetUnfolder sameRank = sharedLoop();
+        NetUnfolder sameRank = Expect.sharedLoop();
         Checks.same("events of one rank are no cut-offs of each other", sameRank.count(2), 0);
         Checks.same("each makes its condition", sameRank.count(1), 7);
-        NetUnfolder behind = unfolded(5, 1, 1, 2, 1, 4, 2, 8, 4, 8, 8, 1);
-        eventIs(behind, 3, 3, 2, 8, 1);
-        eventIs(behind, 4, 4, 3, 1, 1);
+        NetUnfolder behind = Expect.unfolded(5, 1, 1, 2, 1, 4, 2, 8, 4, 8, 8, 1);
+        Expect.eventIs(behind, 3, 3, 2, 8, 1);
+        Expect.eventIs(behind, 4, 4, 3, 1, 1);
     }
 
     private static void promise5Unsafe() {
-        NetUnfolder x = unfolded(UNSAFE, 1, 1, 3);
+        NetUnfolder x = Expect.unfolded(UNSAFE, 1, 1, 3);
         Checks.same("events before", x.count(0), 1);
         Checks.same("conditions before", x.count(1), 3);
-        eventIs(x, 0, 0, 1, 3, 0);
+        Expect.eventIs(x, 0, 0, 1, 3, 0);
         Checks.that("concurrent before", x.concurrent(1, 2));
         Checks.badState("reach", () -> x.reach(3));
         Checks.badState("deadlock", x::deadlock);
-        wayIs(x, 0, 0);
+        Expect.wayIs(x, 0, 0);
         Checks.same("it can be played", x.play(2), 3);
-        NetUnfolder atOnce = unfolded(UNSAFE, 3, 1, 2);
+        NetUnfolder atOnce = Expect.unfolded(UNSAFE, 3, 1, 2);
         Checks.same("nothing has come", atOnce.count(0), 0);
-        wayIs(atOnce, 0);
+        Expect.wayIs(atOnce, 0);
         Checks.same("played", atOnce.play(1), 2);
         // What is taken and made again is no rival, and neither is what is in conflict or a cause.
-        unfolded(1, 3, 1, 1);
-        unfolded(2, 1, 1, 6, 1, 2);
-        unfolded(2, 1, 1, 2, 2, 1);
+        Expect.unfolded(1, 3, 1, 1);
+        Expect.unfolded(2, 1, 1, 6, 1, 2);
+        Expect.unfolded(2, 1, 1, 2, 2, 1);
     }
 
     private static void promise5WayOfUnsafe() {
         // The rival's causes come first, even where their numbers are greater.
-        wayIs(unfolded(UNSAFE, 3, 1, 4, 2, 8, 8, 4), 0, 1, 2);
-        wayIs(unfolded(UNSAFE, 3, 2, 8, 1, 4, 8, 4), 1, 0, 2);
+        Expect.wayIs(Expect.unfolded(UNSAFE, 3, 1, 4, 2, 8, 8, 4), 0, 1, 2);
+        Expect.wayIs(Expect.unfolded(UNSAFE, 3, 2, 8, 1, 4, 8, 4), 1, 0, 2);
         // Of two rivals the lesser condition counts, not the lesser place.
-        wayIs(unfolded(UNSAFE, 14, 2, 64, 4, 32, 8, 96), 0, 2);
+        Expect.wayIs(Expect.unfolded(UNSAFE, 14, 2, 64, 4, 32, 8, 96), 0, 2);
         // What the rival and the event have both as causes is told once.
-        wayIs(unfolded(UNSAFE, 1, 1, 6, 2, 8, 4, 16, 16, 8), 0, 1, 2, 3);
+        Expect.wayIs(Expect.unfolded(UNSAFE, 1, 1, 6, 2, 8, 4, 16, 16, 8), 0, 1, 2, 3);
         // The event for which there would be no room does not come, since the net is not safe.
-        NetUnfolder x = unfolded(UNSAFE, 7, 7, 197, 4, 8, 6, 68, 4, 40, 8, 20, 8, 4);
+        NetUnfolder x = Expect.unfolded(UNSAFE, 7, 7, 197, 4, 8, 6, 68, 4, 40, 8, 20, 8, 4);
         Checks.same("as many events as there may be", x.count(0), 30);
-        wayIs(x, 3, 4, 3);
+        Expect.wayIs(x, 3, 4, 3);
         // As many events are possible as may be, none too many.
-        unfolded(UNSAFE, 199, 65, 1, 6, 4, 5, 33, 1, 17, 132, 36, 5, 13, 1, 25, 5, 37);
+        Expect.unfolded(UNSAFE, 199, 65, 1, 6, 4, 5, 33, 1, 17, 132, 36, 5, 13, 1, 25, 5, 37);
     }
 
     private static void promise5Room() {
         // One event, one condition and one possible event more than may be.
-        noPrefix(unfolded(ROOM, 15, 10, 2, 2, 16, 6, 2, 17, 130, 157, 8));
-        noPrefix(unfolded(ROOM, 191, 59, 43, 46, 108, 46, 78, 250, 20, 29, 28, 157, 13));
-        noPrefix(unfolded(ROOM, 178, 48, 32, 130, 2, 34, 3, 32, 40, 34, 35, 2, 6, 2, 70, 34, 99));
-        NetUnfolder x = unfolded(ROOM, 31, 3, 1, 5, 1, 9, 1, 17, 1);
-        noPrefix(x);
+        Expect.noPrefix(Expect.unfolded(ROOM, 15, 10, 2, 2, 16, 6, 2, 17, 130, 157, 8));
+        Expect.noPrefix(Expect.unfolded(ROOM, 191, 59, 43, 46, 108, 46, 78, 250, 20, 29, 28, 157, 13));
+        Expect.noPrefix(Expect.unfolded(ROOM, 178, 48, 32, 130, 2, 34, 3, 32, 40, 34, 35, 2, 6, 2, 70, 34, 99));
+        NetUnfolder x = Expect.unfolded(ROOM, 31, 3, 1, 5, 1, 9, 1, 17, 1);
+        Expect.noPrefix(x);
         Checks.same("again", x.unfold(), ROOM);
         x.first(15);
         Checks.same("with one place less", x.unfold(), 15);
     }
 
     private static void promise5Again() {
-        NetUnfolder x = togetherOrApart();
+        NetUnfolder x = Expect.togetherOrApart();
         x.reach(12);
         Checks.same("unfold again", x.unfold(), 3);
         Checks.same("events again", x.count(0), 3);
         Checks.same("conditions again", x.count(1), 6);
         Checks.same("takers again", x.condition(0, 2), 2);
         // Nothing is said of losing the way when the prefix is whole.
-        wayIs(x, 1, 2);
-        NetUnfolder y = unfolded(UNSAFE, 1, 1, 3);
+        Expect.wayIs(x, 1, 2);
+        NetUnfolder y = Expect.unfolded(UNSAFE, 1, 1, 3);
         Checks.same("unfold again", y.unfold(), UNSAFE);
-        wayIs(y, 0, 0);
+        Expect.wayIs(y, 0, 0);
         Checks.same("conditions again", y.count(1), 3);
     }
 
     private static void promise6Reach() {
-        NetUnfolder x = unfolded(4, 1, 1, 6, 2, 8, 4, 16, 24, 1);
+        NetUnfolder x = Expect.unfolded(4, 1, 1, 6, 2, 8, 4, 16, 24, 1);
         Checks.same("reach(24)", x.reach(24), 3);
-        wayIs(x, 0, 1, 2);
+        Expect.wayIs(x, 0, 1, 2);
         Checks.same("reach(18)", x.reach(18), 2);
-        wayIs(x, 0, 2);
+        Expect.wayIs(x, 0, 2);
         Checks.same("the first marking", x.reach(1), 0);
-        wayIs(x);
+        Expect.wayIs(x);
         Checks.same("play nothing", x.play(0), 1);
         Checks.same("more than can be", x.reach(25), NONE);
-        noWay(x);
+        Expect.noWay(x);
         x.reach(6);
         Checks.same("less than can be", x.reach(0), NONE);
-        noWay(x);
+        Expect.noWay(x);
         // A marking behind cut-offs only is reached elsewhere.
-        NetUnfolder y = unfolded(5, 1, 1, 2, 1, 4, 2, 8, 4, 8, 8, 1);
+        NetUnfolder y = Expect.unfolded(5, 1, 1, 2, 1, 4, 2, 8, 4, 8, 8, 1);
         Checks.same("reach(8)", y.reach(8), 2);
-        wayIs(y, 0, 2);
-        NetUnfolder z = unfolded(2, 3, 1, 0, 2, 0);
+        Expect.wayIs(y, 0, 2);
+        NetUnfolder z = Expect.unfolded(2, 3, 1, 0, 2, 0);
         Checks.same("no token left", z.reach(0), 2);
-        wayIs(z, 0, 1);
+        Expect.wayIs(z, 0, 1);
     }
 
     private static void promise6FirstOfTheSets() {
-        NetUnfolder apart = togetherOrApart();
+        NetUnfolder apart = Expect.togetherOrApart();
         Checks.same("without event 0, though longer", apart.reach(12), 2);
-        wayIs(apart, 1, 2);
-        NetUnfolder loop = sharedLoop();
+        Expect.wayIs(apart, 1, 2);
+        NetUnfolder loop = Expect.sharedLoop();
         Checks.same("of two orders", loop.reach(1), 2);
-        wayIs(loop, 1, 0);
+        Expect.wayIs(loop, 1, 0);
     }
 
     private static void promise6WrongInputs() {
-        NetUnfolder x = togetherOrApart();
+        NetUnfolder x = Expect.togetherOrApart();
         x.reach(12);
         int[] wrong = {-1, 256, Integer.MIN_VALUE, Integer.MAX_VALUE};
         for (int m : wrong) {
             Checks.badArgument("reach " + m, () -> x.reach(m));
         }
-        wayIs(x, 1, 2);
+        Expect.wayIs(x, 1, 2);
         Checks.same("reach(255)", x.reach(255), NONE);
         NetUnfolder fresh = new NetUnfolder();
         Checks.badState("without a prefix", () -> fresh.reach(0));
         Checks.badArgument("without a prefix, and wrong", () -> fresh.reach(256));
-        NetUnfolder unsafe = unfolded(UNSAFE, 1, 1, 3);
+        NetUnfolder unsafe = Expect.unfolded(UNSAFE, 1, 1, 3);
         Checks.badState("not safe", () -> unsafe.reach(1));
         Checks.badArgument("not safe, and wrong", () -> unsafe.reach(-1));
-        wayIs(unsafe, 0, 0);
+        Expect.wayIs(unsafe, 0, 0);
     }
 
     private static void promise7Deadlock() {
-        NetUnfolder x = unfolded(1, 1, 1, 2);
+        NetUnfolder x = Expect.unfolded(1, 1, 1, 2);
         Checks.same("deadlock", x.deadlock(), 1);
-        wayIs(x, 0);
+        Expect.wayIs(x, 0);
         Checks.same("played", x.play(1), 2);
-        NetUnfolder circle = unfolded(2, 1, 1, 2, 2, 1);
+        NetUnfolder circle = Expect.unfolded(2, 1, 1, 2, 2, 1);
         circle.reach(2);
         Checks.same("no deadlock", circle.deadlock(), NONE);
-        noWay(circle);
-        NetUnfolder still = unfolded(0, 1, 3, 4);
+        Expect.noWay(circle);
+        NetUnfolder still = Expect.unfolded(0, 1, 3, 4);
         Checks.same("nothing can ever happen", still.deadlock(), 0);
-        wayIs(still);
-        NetUnfolder apart = togetherOrApart();
+        Expect.wayIs(still);
+        NetUnfolder apart = Expect.togetherOrApart();
         Checks.same("the first of the sets", apart.deadlock(), 2);
-        wayIs(apart, 1, 2);
+        Expect.wayIs(apart, 1, 2);
         // Two that each take one of two things and then want the other.
-        NetUnfolder forks = unfolded(4, 15, 5, 16, 10, 32, 24, 13, 36, 14);
+        NetUnfolder forks = Expect.unfolded(4, 15, 5, 16, 10, 32, 24, 13, 36, 14);
         Checks.same("both have one", forks.deadlock(), 2);
-        wayIs(forks, 0, 1);
+        Expect.wayIs(forks, 0, 1);
         Checks.same("their marking", forks.play(2), 48);
-        NetUnfolder unsafe = unfolded(UNSAFE, 1, 1, 3);
+        NetUnfolder unsafe = Expect.unfolded(UNSAFE, 1, 1, 3);
         Checks.badState("not safe", unsafe::deadlock);
-        wayIs(unsafe, 0, 0);
+        Expect.wayIs(unsafe, 0, 0);
         Checks.badState("without a prefix", () -> new NetUnfolder().deadlock());
     }
 
     private static void promise8Way() {
-        NetUnfolder x = togetherOrApart();
+        NetUnfolder x = Expect.togetherOrApart();
         Checks.same("without a way", x.way(0), NONE);
         x.reach(12);
         Checks.same("way(0)", x.way(0), 1);
@@ -400,11 +331,11 @@ public final class PromiseTest {
             Checks.same("way " + k, x.way(k), NONE);
         }
         x.reach(6);
-        wayIs(x, 1);
+        Expect.wayIs(x, 1);
     }
 
     private static void promise9Play() {
-        NetUnfolder x = unfolded(4, 1, 1, 6, 2, 8, 4, 16, 24, 1);
+        NetUnfolder x = Expect.unfolded(4, 1, 1, 6, 2, 8, 4, 16, 24, 1);
         Checks.badState("no way", () -> x.play(0));
         Checks.badState("no way, so no length to be above", () -> x.play(9));
         Checks.badArgument("below 0 even without a way", () -> x.play(-1));
@@ -417,12 +348,12 @@ public final class PromiseTest {
         for (int n : wrong) {
             Checks.badArgument("play " + n, () -> x.play(n));
         }
-        wayIs(x, 0, 1, 2);
+        Expect.wayIs(x, 0, 1, 2);
     }
 
     private static void promise10Count() {
-        NetUnfolder x = net(7, 3, 1, 5, 1);
-        noPrefix(x);
+        NetUnfolder x = Expect.net(7, 3, 1, 5, 1);
+        Expect.noPrefix(x);
         x.unfold();
         Checks.same("events", x.count(0), 4);
         Checks.same("conditions", x.count(1), 7);
@@ -435,19 +366,19 @@ public final class PromiseTest {
             Checks.same("count " + what, x.count(what), NONE);
             Checks.same("count without a prefix " + what, new NetUnfolder().count(what), NONE);
         }
-        Checks.same("cut-offs", unfolded(5, 1, 1, 2, 1, 4, 2, 8, 4, 8, 8, 1).count(2), 2);
+        Checks.same("cut-offs", Expect.unfolded(5, 1, 1, 2, 1, 4, 2, 8, 4, 8, 8, 1).count(2), 2);
     }
 
     private static void promise11Event() {
-        NetUnfolder x = unfolded(5, 3, 3, 12, 4, 1, 8, 2, 12, 3);
-        eventIs(x, 0, 0, 1, 12, 0);
-        eventIs(x, 1, 1, 2, 9, 0);
-        eventIs(x, 2, 2, 2, 6, 0);
-        eventIs(x, 3, 3, 2, 3, 1);
-        eventIs(x, 4, 0, 4, 12, 1);
+        NetUnfolder x = Expect.unfolded(5, 3, 3, 12, 4, 1, 8, 2, 12, 3);
+        Expect.eventIs(x, 0, 0, 1, 12, 0);
+        Expect.eventIs(x, 1, 1, 2, 9, 0);
+        Expect.eventIs(x, 2, 2, 2, 6, 0);
+        Expect.eventIs(x, 3, 3, 2, 3, 1);
+        Expect.eventIs(x, 4, 0, 4, 12, 1);
         int[] none = {-1, 5, 29, 30, Integer.MIN_VALUE, Integer.MAX_VALUE};
         for (int e : none) {
-            eventIs(x, e, NONE, NONE, NONE, NONE);
+            Expect.eventIs(x, e, NONE, NONE, NONE, NONE);
         }
         int[] others = {-1, 4, Integer.MIN_VALUE, Integer.MAX_VALUE};
         for (int what : others) {
@@ -456,11 +387,11 @@ public final class PromiseTest {
     }
 
     private static void promise12Takes() {
-        NetUnfolder x = sharedLoop();
-        takesAre(x, 0, 0, 1);
-        takesAre(x, 1, 0, 2);
-        takesAre(x, 2, 4, 1);
-        takesAre(x, 3, 3, 2);
+        NetUnfolder x = Expect.sharedLoop();
+        Expect.takesAre(x, 0, 0, 1);
+        Expect.takesAre(x, 1, 0, 2);
+        Expect.takesAre(x, 2, 4, 1);
+        Expect.takesAre(x, 3, 3, 2);
         int[] none = {-1, 2, 8, 1000, Integer.MIN_VALUE, Integer.MAX_VALUE};
         for (int k : none) {
             Checks.same("takes 0 " + k, x.takes(0, k), NONE);
@@ -469,11 +400,11 @@ public final class PromiseTest {
         for (int e : noEvents) {
             Checks.same("takes " + e + " 0", x.takes(e, 0), NONE);
         }
-        takesAre(unfolded(1, 255, 255, 0), 0, 0, 1, 2, 3, 4, 5, 6, 7);
+        Expect.takesAre(Expect.unfolded(1, 255, 255, 0), 0, 0, 1, 2, 3, 4, 5, 6, 7);
     }
 
     private static void promise13Condition() {
-        NetUnfolder x = unfolded(5, 3, 3, 12, 4, 1, 8, 2, 12, 3);
+        NetUnfolder x = Expect.unfolded(5, 3, 3, 12, 4, 1, 8, 2, 12, 3);
         int[] places = {0, 1, 2, 3, 0, 1};
         int[] makers = {NONE, NONE, 0, 0, 1, 2};
         int[] takers = {1, 1, 2, 2, 1, 1};
@@ -492,7 +423,7 @@ public final class PromiseTest {
         for (int what : others) {
             Checks.same("condition 0 " + what, x.condition(0, what), NONE);
         }
-        NetUnfolder untaken = unfolded(0, 129);
+        NetUnfolder untaken = Expect.unfolded(0, 129);
         Checks.same("by rising places", untaken.condition(1, 0), 7);
         Checks.same("taken by none", untaken.condition(1, 2), 0);
     }
@@ -503,14 +434,14 @@ public final class PromiseTest {
     }
 
     private static void promise14Concurrent() {
-        NetUnfolder x = unfolded(4, 1, 1, 6, 2, 8, 4, 16, 24, 1);
+        NetUnfolder x = Expect.unfolded(4, 1, 1, 6, 2, 8, 4, 16, 24, 1);
         concurrentIs(x, 1, 2, true);
         concurrentIs(x, 1, 4, true);
         concurrentIs(x, 3, 4, true);
         concurrentIs(x, 0, 1, false);
         concurrentIs(x, 0, 3, false);
         concurrentIs(x, 1, 3, false);
-        NetUnfolder loop = sharedLoop();
+        NetUnfolder loop = Expect.sharedLoop();
         concurrentIs(loop, 0, 1, true);
         concurrentIs(loop, 3, 2, true);
         concurrentIs(loop, 3, 4, false);
